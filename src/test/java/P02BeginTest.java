@@ -8,8 +8,8 @@ public final class P02BeginTest {
     }
 
     private static void digitsAreTheVariables(Due due) {
-        ClaimDesk desk = new ClaimDesk();
         for (int values = 0; values < 256; values++) {
+            ClaimDesk desk = new ClaimDesk();
             due.yes("begin(" + values + ")", desk.begin(values));
             int rest = values;
             for (int v = 0; v < 4; v++) {

@@ -3,7 +3,8 @@ public final class P07ExploreTest {
         Due due = new Due();
         numbersAsFound(due);
         threeHundredFit(due);
-        threeHundredAndOneDoNot(due);
+        moreDoNot(due);
+        justOneMore(due);
         madeAnew(due);
         stateNowStays(due);
         beginsAtTheFirstState(due);
@@ -36,7 +37,30 @@ public final class P07ExploreTest {
         due.no("go(300)", desk.go(300));
     }
 
-    private static void threeHundredAndOneDoNot(Due due) {
+    /**
+     * PROCESS 0 at PLACES 0 to 3 with three VARIABLES: 256 STATES; at 4: 32, at 5: 8, at 6: 3; the last
+     * TRANSITION leads one or two of these to PLACE 7, so that there are 300 or 301.
+     */
+    private static void justOneMore(Due due) {
+        ClaimDesk desk = new ClaimDesk();
+        for (int v = 0; v < 3; v++) {
+            desk.add(0, 0, 0, Op.add(v, 1));
+            desk.add(0, v, v + 1, Op.PASS);
+        }
+        desk.add(0, 3, 4, Op.is(0, 0));
+        desk.add(0, 4, 4, Op.set(3, 1));
+        desk.add(0, 4, 5, Op.is(1, 0));
+        desk.add(0, 5, 6, Op.is(2, 0));
+        desk.add(0, 6, 6, Op.set(3, 2));
+        due.is("explore()", desk.explore(), 299);
+        int last = desk.add(0, 6, 7, Op.is(3, 0));
+        due.is("explore()", desk.explore(), 300);
+        desk.change(last, 0, 6, 7, Op.isNot(3, 0));
+        due.is("explore()", desk.explore(), ClaimDesk.LARGE);
+        due.is("count(2)", desk.count(2), ClaimDesk.NONE);
+    }
+
+    private static void moreDoNot(Due due) {
         ClaimDesk desk = Desks.threeHundred();
         desk.explore();
         desk.walk(0);

@@ -8,16 +8,22 @@ public final class P15NowTest {
         due.end();
     }
 
-    private static void asForState(Due due) {
+    private static ClaimDesk withChannel() {
         ClaimDesk desk = new ClaimDesk();
         desk.begin(0b10_01_11_01);
         desk.add(0, 0, 1, Op.send(1));
         desk.add(1, 0, 2, Op.send(3));
         desk.add(2, 0, 3, Op.take(0));
         desk.add(0, 1, 0, Op.add(2, 3));
-        int states = desk.explore();
-        due.is("the SPACE is there", states > 10, true);
+        return desk;
+    }
+
+    private static void asForState(Due due) {
+        int states = withChannel().explore();
+        due.yes("the SPACE is there", states > 10);
         for (int s = 0; s < states; s++) {
+            ClaimDesk desk = withChannel();
+            desk.explore();
             desk.go(s);
             for (int what = 0; what <= 10; what++) {
                 due.is("now(" + what + ") in " + s, desk.now(what), desk.state(s, what));

@@ -3,6 +3,8 @@ public final class P16CountTest {
         Due due = new Due();
         everyCount(due);
         stuckAndDone(due);
+        oneState(due);
+        smallerThanBefore(due);
         withoutSpace(due);
         wrongWhats(due);
         due.end();
@@ -46,6 +48,28 @@ public final class P16CountTest {
         due.is("count(5)", desk.count(5), 2);
         due.is("count(6)", desk.count(6), 1);
         due.is("count(4)", desk.count(4), 3);
+    }
+
+    private static void oneState(Due due) {
+        ClaimDesk desk = new ClaimDesk();
+        desk.explore();
+        int[] want = {0, 0, 1, 0, 0, 1, 0};
+        for (int what = 0; what < want.length; what++) {
+            due.is("count(" + what + ") of one STATE", desk.count(what), want[what]);
+        }
+    }
+
+    private static void smallerThanBefore(Due due) {
+        ClaimDesk desk = Desks.chain(7);
+        desk.explore();
+        due.is("count(3)", desk.count(3), 7);
+        due.is("count(4)", desk.count(4), 7);
+        desk.change(2, 0, 2, 0, Op.PASS);
+        due.is("explore()", desk.explore(), 3);
+        due.is("count(3)", desk.count(3), 3);
+        due.is("count(4)", desk.count(4), 2);
+        due.is("count(5)", desk.count(5), 0);
+        due.is("count(14)", desk.count(14), 0);
     }
 
     private static void withoutSpace(Due due) {
