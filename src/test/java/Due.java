@@ -1,13 +1,23 @@
 /** Compares answers with those that are due, tells the wrong ones, and ends the test. */
 final class Due {
+    private final String about;
     private int asked;
     private int wrong;
+
+    Due() {
+        this("");
+    }
+
+    /** Each wrong answer is told with these words before it. */
+    Due(String about) {
+        this.about = about;
+    }
 
     void is(String call, int got, int want) {
         asked++;
         if (got != want) {
             wrong++;
-            System.out.println(call + " answered " + got + ", due is " + want);
+            System.out.println(about + call + " answered " + got + ", due is " + want);
         }
     }
 
@@ -15,7 +25,7 @@ final class Due {
         asked++;
         if (got != want) {
             wrong++;
-            System.out.println(call + " answered " + got + ", due is " + want);
+            System.out.println(about + call + " answered " + got + ", due is " + want);
         }
     }
 
@@ -32,9 +42,16 @@ final class Due {
     }
 
     /** A test that asked nothing has failed too. */
-    void end() {
+    boolean holds() {
         if (wrong > 0 || asked == 0) {
-            System.out.println(wrong + " of " + asked + " answers are not as due");
+            System.out.println(about + wrong + " of " + asked + " answers are not as due");
+            return false;
+        }
+        return true;
+    }
+
+    void end() {
+        if (!holds()) {
             System.exit(1);
         }
     }
