@@ -132,6 +132,10 @@ public final class P12EdgesTest {
         desk.change(0, 0, 2, 0, 0);
         desk.explore();
         due.is("state(1, 12), the first of two leads back", desk.state(1, 12), 0);
+        desk.change(1, 0, 0, 2, 0);
+        desk.change(22, 0, 0, 0, 0);
+        desk.explore();
+        due.is("state(0, 12), the second of two leads to a lesser one", desk.state(0, 12), 1);
         ClaimDesk row = explored(Desks.longRow());
         due.is("state(298, 12)", row.state(298, 12), 299);
         due.is("state(299, 12)", row.state(299, 12), ClaimDesk.NONE);
