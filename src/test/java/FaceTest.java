@@ -2,36 +2,34 @@ import java.lang.reflect.Constructor;
 import java.lang.reflect.Field;
 import java.lang.reflect.Method;
 import java.lang.reflect.Modifier;
-import java.util.Arrays;
+import java.util.List;
+import java.util.Map;
 import java.util.Set;
+import java.util.TreeMap;
 import java.util.TreeSet;
 
 /** The class has the document's face and nothing else that can be seen (LANGUAGE.md, rules 1, 2, 5). */
 public final class FaceTest {
-    private static final String[] FACE = {
-        "boolean begin(int)", "int add(int,int,int,int)", "boolean change(int,int,int,int,int)",
-        "int clear()", "int claim(int,int,int)", "int explore()", "int fails(int)", "int stuck(boolean)",
-        "int avoids(int,int)", "int way(int,int)", "int state(int,int)", "boolean walk(int)",
-        "boolean go(int)", "int now(int)", "int count(int)",
-    };
-
     public static void main(String[] args) throws Exception {
         Due due = new Due();
+        Face face = new Face();
+        due.yes("the document's face has other lines: " + face.others, face.others.isEmpty());
         due.yes("public and final", Modifier.isPublic(ClaimDesk.class.getModifiers())
                 && Modifier.isFinal(ClaimDesk.class.getModifiers()));
-        constants(due);
-        constructors(due);
-        methods(due);
+        constants(due, face);
+        constructors(due, face);
+        methods(due, face);
         classesInside(due);
         due.end();
     }
 
-    private static void constants(Due due) throws Exception {
-        due.is("REFUSED", ClaimDesk.class.getField("REFUSED").getInt(null), -1);
-        due.is("NONE", ClaimDesk.class.getField("NONE").getInt(null), -2);
-        due.is("FULL", ClaimDesk.class.getField("FULL").getInt(null), -3);
-        due.is("LARGE", ClaimDesk.class.getField("LARGE").getInt(null), -4);
-        due.is("public fields", ClaimDesk.class.getFields().length, 4);
+    private static void constants(Due due, Face face) throws Exception {
+        Map<String, Integer> seen = new TreeMap<>();
+        for (Field field : ClaimDesk.class.getFields()) {
+            due.yes(field + " is an int", field.getType() == int.class);
+            seen.put(field.getName(), field.getInt(null));
+        }
+        due.yes("the constants are " + seen + ", due are " + face.constants, seen.equals(face.constants));
         for (Field field : ClaimDesk.class.getDeclaredFields()) {
             int modifiers = field.getModifiers();
             due.yes(field + " is public or private", Modifier.isPublic(modifiers) || Modifier.isPrivate(modifiers));
@@ -39,14 +37,19 @@ public final class FaceTest {
         }
     }
 
-    private static void constructors(Due due) {
+    private static void constructors(Due due, Face face) {
+        due.yes("the document has " + face.constructors, face.constructors.equals(List.of("ClaimDesk()")));
         Constructor<?>[] all = ClaimDesk.class.getDeclaredConstructors();
         due.is("constructors", all.length, 1);
         due.yes("it is public", Modifier.isPublic(all[0].getModifiers()));
         due.is("its parameters", all[0].getParameterCount(), 0);
     }
 
-    private static void methods(Due due) {
+    private static void methods(Due due, Face face) {
+        Set<String> wanted = new TreeSet<>();
+        for (String method : face.methods) {
+            wanted.add(Face.withoutNames(method));
+        }
         Set<String> seen = new TreeSet<>();
         Set<String> publicNames = new TreeSet<>();
         Set<String> privateNames = new TreeSet<>();
@@ -60,7 +63,7 @@ public final class FaceTest {
                 privateNames.add(method.getName());
             }
         }
-        due.yes("the face is " + seen, seen.equals(new TreeSet<>(Arrays.asList(FACE))));
+        due.yes("the methods are " + seen + ", due are " + wanted, seen.equals(wanted));
         privateNames.retainAll(publicNames);
         due.yes("private names that are public ones too: " + privateNames, privateNames.isEmpty());
     }
